@@ -1,0 +1,74 @@
+/** Counts the answers that are not as due, and makes kitchens of texts. */
+final class Due {
+    private final String name;
+    private int asked = 0;
+    private int wrong = 0;
+
+    Due(String name) {
+        this.name = name;
+    }
+
+    void is(String call, long got, long want) {
+        asked++;
+        if (got != want) {
+            wrong++;
+            System.out.println(name + ": " + call + " answered " + got + ", due is " + want);
+        }
+    }
+
+    /** Every test's main method ends with this. */
+    void close() {
+        System.out.println(name + ": " + asked + " answers, " + wrong + " not as due");
+        if (wrong > 0 || asked == 0) {
+            System.exit(1);
+        }
+    }
+
+    static void feedAll(SpoonHates x, String text) {
+        for (int i = 0; i < text.length(); i++) {
+            x.feed(text.charAt(i));
+        }
+    }
+
+    /** A new object that has been told a text without a fault. */
+    static SpoonHates told(String text) {
+        SpoonHates x = new SpoonHates();
+        feedAll(x, text);
+        int lines = x.text();
+        if (lines < 0) {
+            throw new IllegalStateException("the test's own text is refused: " + text + ": " + lines);
+        }
+        return x;
+    }
+
+    /** All that can be asked for without changing a thing, in one line. */
+    static String state(SpoonHates x) {
+        StringBuilder all = new StringBuilder();
+        for (int what = 0; what < 9; what++) {
+            all.append(x.rule(what)).append(' ');
+        }
+        for (int a = 0; a < 5; a++) {
+            all.append(" k").append(x.helper(a));
+            for (int b = 0; b < 5; b++) {
+                all.append(' ').append(x.hatred(a, b, 0));
+            }
+        }
+        for (int i = 0; i < 6; i++) {
+            all.append(" s").append(x.slip(i, 0)).append(' ').append(x.slip(i, 1)).append(' ')
+                    .append(x.slip(i, 2)).append(' ').append(x.slip(i, 3));
+        }
+        for (int i = 0; i < 8; i++) {
+            all.append(" p").append(x.plan(i));
+        }
+        for (int what = 0; what < 5; what++) {
+            all.append(" c").append(x.count(what));
+        }
+        return all.append(" t").append(x.torn()).append(" f").append(x.fault()).toString();
+    }
+
+    /** That a call answers as due and changes nothing that can be asked for. */
+    void keeps(String call, SpoonHates x, String before, long got, long want) {
+        is(call, got, want);
+        is(call + " changes nothing", state(x).equals(before) ? 0 : 1, 0);
+    }
+}
