@@ -4,6 +4,9 @@ public final class SpoonHates {
 
     private static final int MOST_HELPERS = 5;
     private static final int MOST_HATRED = 9;
+    private static final int MOST_OF_NUN = 3;
+    private static final int FIRST_NEED = 20;
+    private static final int FIRST_NOON = 8;
     private static final int MOST_NEED = 99;
     private static final int MOST_NOON = 12;
     private static final int MOST_DONE = 999;
@@ -635,8 +638,8 @@ public final class SpoonHates {
     /** The helpers and the pot: all that a stirring looks at or changes. */
     private static final class Soup {
         int helpers = 0;
-        int need = 20;
-        int noon = 8;
+        int need = FIRST_NEED;
+        int noon = FIRST_NOON;
         int step = 0;
         int done = 0;
         boolean isSet = false;
@@ -672,10 +675,10 @@ public final class SpoonHates {
         }
 
         int feelingOf(int a, int b) {
-            int hatred = hatredOf(a, b);
+            int hatred = hatreds[a * MOST_HELPERS + b];
             switch (kinds[a]) {
-                case SULLEN: return Math.max(0, hatred - 1);
-                case NUN: return Math.min(3, hatred);
+                case SULLEN: return hatred > 0 ? hatred - 1 : 0;
+                case NUN: return hatred < MOST_OF_NUN ? hatred : MOST_OF_NUN;
                 case BROTHER: return 2 * hatred;
                 default: return hatred;
             }
@@ -860,8 +863,8 @@ public final class SpoonHates {
 
         void clear() {
             soup.helpers = 0;
-            soup.need = 20;
-            soup.noon = 8;
+            soup.need = FIRST_NEED;
+            soup.noon = FIRST_NOON;
             soup.step = 0;
             soup.done = 0;
             soup.isSet = false;
@@ -884,7 +887,6 @@ public final class SpoonHates {
         int next = 0;
 
         void rewind() {
-            start = 0;
             next = 0;
         }
 
@@ -900,17 +902,17 @@ public final class SpoonHates {
                 next++;
                 return SEMICOLON;
             }
-            if (passAll('a', 'z')) {
-                return NAME;
-            }
-            return passAll('0', '9') && next - start <= MOST_FIGURES ? NUMBER : NO_TOKEN;
-        }
-
-        private boolean passAll(char least, char most) {
+            boolean mayBeName = bytes[next] >= 'a';
+            char least = mayBeName ? 'a' : '0';
+            char most = mayBeName ? 'z' : '9';
             while (next < length && bytes[next] >= least && bytes[next] <= most) {
                 next++;
             }
-            return next > start;
+            int many = next - start;
+            if (mayBeName) {
+                return many > 0 ? NAME : NO_TOKEN;
+            }
+            return many > 0 && many <= MOST_FIGURES ? NUMBER : NO_TOKEN;
         }
 
         int number() {
@@ -1220,7 +1222,9 @@ public final class SpoonHates {
                 Soup soup = behind[i + 1];
                 soup.copyFrom(behind[i]);
                 int pair = pairs[chosen[i]];
-                soup.stirsIfMay(pair / 10, pair % 10);
+                if (soup.canBeStirred()) {
+                    soup.stirOnce(pair / 10, pair % 10);
+                }
             }
         }
 

@@ -53,7 +53,7 @@ public final class SheetTest {
         x.cut(1);
         x.plans(1, 2);
         x.forget(0);
-        x.see(0, 2);
+        x.see(0, 4);
         x.stir(1, 2);
         x.hate(0, 1, 0);
         x.hate(1, 0, 0);
@@ -119,9 +119,14 @@ public final class SheetTest {
         due.is("read(2, 2, 0, 1)", x.read(2, 2, 0, 1), 1);
         due.is("sheet(2, 2, 2): its cells are 0 again", x.sheet(2, 2, 2), 1);
         due.is("read(2, 2, 0, 1)", x.read(2, 2, 0, 1), -20);
-        due.is("rule(3)", x.rule(3), 3);
+        due.is("lay(2, 0, 7)", x.lay(2, 0, 7) + x.sheet(2, 2, 2) + x.lay(2, 1, 1), 3);
+        due.is("read(2, 2, 0, 1): the first cell is 0 again", x.read(2, 2, 0, 1), 1);
+        due.is("rule(3)", x.rule(3), 4);
         due.is("lay(0, 0, 256)", x.lay(0, 0, 256) + x.lay(0, 1, 1), 2);
         due.is("read(0, 0, 0, 1)", x.read(0, 0, 0, 1), 1);
+        x.sheet(3, 2, 2);
+        due.is("lay(3, 1, 1)", x.lay(3, 1, 1), 1);
+        due.is("read(3, 2, 0, 1)", x.read(3, 2, 0, 1), 1);
     }
 
     private static void layAll(SpoonHates x, int k, int... cells) {

@@ -130,6 +130,11 @@ public final class TextTest {
     }
 
     private static void outOfPlace() {
+        String[] others = {"flain;", "pullen;", "sun;", "trother;", "late 0 1 1;", "doth 0 1 1;", "lot 1 1;",
+            "flip 0 1 1;", "clan 0 1;", "plainn;", "hat 0 1 1;", "bothe 0 1 1;", "po 1 1;", "slop 0 1 1;", "pla 0 1;"};
+        for (String other : others) {
+            refuses(other, 0, 2);
+        }
         refuses("plein;", 0, 2);
         refuses("plains;", 0, 2);
         refuses("plai;", 0, 2);

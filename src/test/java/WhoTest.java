@@ -37,6 +37,13 @@ public final class WhoTest {
         due.is("best(1, 14)", x.best(1, 14), -1);
         SpoonHates y = Due.told("plain;plain;plain;plain;plain;both 3 4 9;both 2 3 8;");
         best(y, 4, 9 + 8 + 8 + 7, 34 - 8, 23, 23, 34, 34);
+        SpoonHates z = Due.told("plain;plain;plain;plain;plain;both 3 4 9;");
+        best(z, 1, 9, 16, 34);
+        best(z, 4, 9 + 8 + 7 + 6, 10, 34, 34, 34, 34);
+        z.set(0, 30);
+        few(z, 34, 34, 34, 34);
+        z.set(0, 31);
+        due.is("few(0) of five, by none", z.few(0), -4);
     }
 
     private static void bestOfEqual() {
@@ -140,6 +147,13 @@ public final class WhoTest {
         // twos and ones: 2 and 2 make 2 and 1
         due.is("slips(0)", z.slips(0), 2);
         due.is("slips(1)", z.slips(1), 48);
+        // all six make 4 and 4, which a nun feels as 3, and once more as 3
+        z.set(0, 6);
+        due.is("slips(0): all", z.slips(0), 6);
+        due.is("slips(1): all", z.slips(1), 63);
+        z.set(0, 5);
+        due.is("slips(0): all but a one each", z.slips(0), 4);
+        due.is("slips(1)", z.slips(1), 51);
     }
 
     private static void mate() {
