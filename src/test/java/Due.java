@@ -16,6 +16,21 @@ final class Due {
         }
     }
 
+    /** That two tellings of all that is held are alike; of those that are not, the first lines that differ are told. */
+    void same(String call, String got, String want) {
+        asked++;
+        if (!got.equals(want)) {
+            wrong++;
+            String[] gotLines = got.split("\n");
+            String[] wantLines = want.split("\n");
+            int i = 0;
+            while (i < gotLines.length - 1 && i < wantLines.length - 1 && gotLines[i].equals(wantLines[i])) {
+                i++;
+            }
+            System.out.println(name + ": " + call + ": '" + gotLines[i] + "', due is '" + wantLines[i] + "'");
+        }
+    }
+
     /** Every test's main method ends with this. */
     void close() {
         System.out.println(name + ": " + asked + " answers, " + wrong + " not as due");
@@ -27,6 +42,14 @@ final class Due {
     static void feedAll(SpoonHates x, String text) {
         for (int i = 0; i < text.length(); i++) {
             x.feed(text.charAt(i));
+        }
+    }
+
+    /** A new sheet of just these cells. */
+    static void lay(SpoonHates x, int k, int lane, int... cells) {
+        x.sheet(k, lane, cells.length);
+        for (int i = 0; i < cells.length; i++) {
+            x.lay(k, i, cells[i]);
         }
     }
 
