@@ -1,5 +1,8 @@
 /** Counts the answers that are not as due, and makes kitchens of texts. */
 final class Due {
+    /** By their numbers. */
+    static final String[] KINDS = {"plain", "sullen", "nun", "brother"};
+
     private final String name;
     private int asked = 0;
     private int wrong = 0;
@@ -62,6 +65,21 @@ final class Due {
             throw new IllegalStateException("the test's own text is refused: " + text + ": " + lines);
         }
         return x;
+    }
+
+    /** So many plain ones, each hating each as much as may be. */
+    static SpoonHates haters(int helpers) {
+        SpoonHates x = told("plain;".repeat(helpers) + "pot99 12;");
+        for (int pair = 0; pair < 25; pair++) {
+            x.hate(pair / 5, pair % 5, 9);
+        }
+        return x;
+    }
+
+    /** What one of a kind FEELS of a HATRED. */
+    static int feels(int kind, int hatred) {
+        int[] byKind = {hatred, hatred == 0 ? 0 : hatred - 1, hatred > 3 ? 3 : hatred, hatred + hatred};
+        return byKind[kind];
     }
 
     /** All that can be asked for without changing a thing, in one line. */

@@ -1,22 +1,8 @@
-/** Promises 11 to 24, at their edges: each method is a sentence of the document. */
+/** Promises 19 to 24, at their edges: each method is a sentence of the document. */
 public final class StirEdgesTest {
     private static final Due due = new Due("StirEdgesTest");
-    private static final String[] KINDS = {"plain", "sullen", "nun", "brother"};
-    private static final String FIVE = "nun;nun;nun;nun;nun;";
 
     public static void main(String[] args) {
-        hateIsFrom0To9();
-        slipIs9AtMost();
-        slipIsUsedOnce();
-        tellIsTheGreaterOne();
-        forgiveChangesThoseAbove0();
-        teachAllKinds();
-        needIsFrom1To99();
-        noonIsFrom1To12();
-        noonIsNotBelowStep();
-        planHas8();
-        planPairsByNumbers();
-        cutKeepsTheFirst();
         turnIsTheLesser();
         potSetsIfBothAre0();
         potThatIsSetIsStirredNoMore();
@@ -34,225 +20,14 @@ public final class StirEdgesTest {
         lastsNoonAside();
         lastsOfASetPot();
         threeBothWays();
-        theCallNumber512();
         due.close();
     }
 
-    private static int feels(int kind, int hatred) {
-        int[] all = {hatred, hatred == 0 ? 0 : hatred - 1, hatred > 3 ? 3 : hatred, hatred + hatred};
-        return all[kind];
-    }
-
     private static SpoonHates two(int kind, int other, int hatred, int hatredOfOther) {
-        SpoonHates x = Due.told(KINDS[kind] + ";" + KINDS[other] + ";plain;both0 2 9;pot99 12;");
+        SpoonHates x = Due.told(Due.KINDS[kind] + ";" + Due.KINDS[other] + ";plain;both0 2 9;pot99 12;");
         x.hate(0, 1, hatred);
         x.hate(1, 0, hatredOfOther);
         return x;
-    }
-
-    private static void hateIsFrom0To9() {
-        for (int pair = 0; pair < 25; pair++) {
-            int a = pair / 5, b = pair % 5;
-            SpoonHates x = Due.told(FIVE);
-            for (int v = 0; v <= 9 && a != b; v++) {
-                due.is("hate(" + a + ", " + b + ", " + v + ")", x.hate(a, b, v), v == 0 ? 0 : v - 1);
-                due.is("hatred(" + a + ", " + b + ", 0)", x.hatred(a, b, 0), v);
-                due.is("all HATRED", x.count(0), v);
-            }
-            if (a != b) {
-                due.is("hate(" + a + ", " + b + ", 10)", x.hate(a, b, 10), -1);
-                due.is("hate(" + a + ", " + b + ", -1)", x.hate(a, b, -1), -1);
-                due.is("hatred(" + a + ", " + b + ", 0)", x.hatred(a, b, 0), 9);
-            }
-        }
-    }
-
-    private static void slipIs9AtMost() {
-        for (int cause = 1; cause <= 9; cause++) {
-            for (int hatred = 0; hatred <= 9; hatred++) {
-                SpoonHates x = Due.told("brother;nun;slip0 1 " + cause + ";");
-                x.hate(0, 1, hatred);
-                int then = hatred + cause >= 9 ? 9 : hatred + cause;
-                due.is("use(0) of " + hatred + " and " + cause, x.use(0), then);
-                due.is("hatred(0, 1, 0)", x.hatred(0, 1, 0), then);
-                due.is("hatred(1, 0, 0)", x.hatred(1, 0, 0), 0);
-            }
-        }
-    }
-
-    private static void slipIsUsedOnce() {
-        SpoonHates x = Due.told(FIVE + "slip0 1 1;slip0 1 1;slip1 0 2;slip4 3 9;slip3 4 1;slip2 4 5;");
-        int[] then = {1, 2, 2, 9, 1, 5};
-        due.is("use(-1)", x.use(-1), -1);
-        due.is("use(6)", x.use(6), -1);
-        for (int i = 0; i < 6; i++) {
-            due.is("slip(" + i + ", 3)", x.slip(i, 3), 0);
-            due.is("use(" + i + ")", x.use(i), then[i]);
-            due.is("slip(" + i + ", 3)", x.slip(i, 3), 1);
-            due.is("use(" + i + ") again", x.use(i), -2);
-            due.is("rule(7)", x.rule(7), (2 << i) - 1);
-        }
-        due.is("use(6): BAD ahead of STATE", x.use(6), -1);
-        SpoonHates y = Due.told(FIVE);
-        due.is("use(0) without slips", y.use(0), -1);
-        // nobody needs to be able to stir
-        SpoonHates z = Due.told("nun;nun;slip0 1 4;");
-        z.stir(0, 1);
-        due.is("use(0), the pot set", z.use(0), 4);
-        due.is("it is set still", z.rule(5), 1);
-    }
-
-    private static void tellIsTheGreaterOne() {
-        for (int own = 0; own <= 9; own++) {
-            SpoonHates x = Due.told("nun;brother;");
-            for (int others = 0; others <= 9; others++) {
-                x.hate(0, 1, own);
-                x.hate(1, 0, others);
-                int then = own < others ? others : own;
-                due.is("tell(0, 1) of " + own + " and " + others, x.tell(0, 1), then);
-                due.is("hatred(0, 1, 0)", x.hatred(0, 1, 0), then);
-                due.is("hatred(1, 0, 0)", x.hatred(1, 0, 0), others);
-            }
-        }
-    }
-
-    private static void forgiveChangesThoseAbove0() {
-        for (int a = 0; a < 5; a++) {
-            for (int bits = 0; bits < 16; bits++) {
-                SpoonHates x = Due.told("plain;".repeat(5));
-                int many = 0;
-                for (int pair = 0; pair < 25; pair++) {
-                    x.hate(pair / 5, pair % 5, 1);
-                }
-                for (int i = 0; i < 4; i++) {
-                    int b = i < a ? i : i + 1;
-                    x.hate(a, b, bits >> i & 1);
-                    many += bits >> i & 1;
-                }
-                due.is("forgive(" + a + ") of " + bits, x.forgive(a), many);
-                due.is("forgive(" + a + ") again", x.forgive(a), 0);
-                due.is("that of the other four is left", x.count(0), 16);
-                for (int b = 0; b < 5; b++) {
-                    due.is("hatred(" + a + ", " + b + ", 0)", x.hatred(a, b, 0), a == b ? -1 : 0);
-                    due.is("hatred(" + b + ", " + a + ", 0)", x.hatred(b, a, 0), a == b ? -1 : 1);
-                }
-            }
-        }
-        SpoonHates alone = Due.told("nun;");
-        due.is("forgive(0), alone", alone.forgive(0), 0);
-        due.is("forgive(1), alone", alone.forgive(1), -1);
-    }
-
-    private static void teachAllKinds() {
-        for (int kind = 0; kind < 4; kind++) {
-            for (int then = 0; then < 4; then++) {
-                SpoonHates x = Due.told((KINDS[kind] + ";").repeat(5) + "both4 3 6;");
-                due.is("teach(4, " + then + ")", x.teach(4, then), kind);
-                due.is("helper(4)", x.helper(4), then);
-                due.is("helper(3)", x.helper(3), kind);
-                due.is("hatred(4, 3, 1)", x.hatred(4, 3, 1), feels(then, 6));
-                due.is("hatred(4, 3, 0)", x.hatred(4, 3, 0), 6);
-                due.is("teach(4, 4)", x.teach(4, 4), -1);
-                due.is("teach(4, -1)", x.teach(4, -1), -1);
-                due.is("teach(5, 0)", x.teach(5, 0), -1);
-            }
-        }
-    }
-
-    private static void needIsFrom1To99() {
-        SpoonHates x = new SpoonHates();
-        due.is("set(0, 0)", x.set(0, 0), -1);
-        int was = 20;
-        for (int v = 1; v <= 99; v++) {
-            due.is("set(0, " + v + ")", x.set(0, v), was);
-            due.is("rule(1)", x.rule(1), v);
-            was = v;
-        }
-        due.is("set(0, 100)", x.set(0, 100), -1);
-        due.is("rule(1)", x.rule(1), 99);
-        due.is("rule(2)", x.rule(2), 8);
-    }
-
-    private static void noonIsFrom1To12() {
-        SpoonHates x = new SpoonHates();
-        due.is("set(1, 0)", x.set(1, 0), -1);
-        int was = 8;
-        for (int v = 1; v <= 12; v++) {
-            due.is("set(1, " + v + ")", x.set(1, v), was);
-            due.is("rule(2)", x.rule(2), v);
-            was = v;
-        }
-        due.is("set(1, 13)", x.set(1, 13), -1);
-        due.is("rule(2)", x.rule(2), 12);
-        due.is("rule(1)", x.rule(1), 20);
-    }
-
-    private static void noonIsNotBelowStep() {
-        for (int steps = 0; steps <= 12; steps++) {
-            SpoonHates x = Due.told("sullen;sullen;both0 1 9;pot99 12;");
-            for (int i = 0; i < steps; i++) {
-                x.stir(0, 1);
-            }
-            due.is("rule(3)", x.rule(3), steps);
-            if (steps > 1) {
-                due.is("set(1, " + (steps - 1) + "): STEP is " + steps, x.set(1, steps - 1), -2);
-                due.is("set(1, 1): STEP is " + steps, x.set(1, 1), -2);
-                due.is("rule(2)", x.rule(2), 12);
-            }
-            if (steps < 12) {
-                due.is("set(1, " + (steps + 1) + ")", x.set(1, steps + 1), 12);
-                due.is("stir(0, 1), once more", x.stir(0, 1) > 0 ? 1 : 0, 1);
-                due.is("stir(0, 1) at noon", x.stir(0, 1), -2);
-            } else {
-                due.is("set(1, 12): STEP is 12", x.set(1, 12), 12);
-            }
-            due.is("set(1, 13): BAD ahead of STATE", x.set(1, 13), -1);
-            due.is("set(0, 1): NEED knows no STEP", x.set(0, 1), 99);
-        }
-    }
-
-    private static void planHas8() {
-        SpoonHates x = Due.told(FIVE);
-        due.is("plan(0) without pairs", x.plan(0), -1);
-        for (int i = 0; i < 8; i++) {
-            due.is("plans(0, 1)", x.plans(0, 1), i + 1);
-            due.is("plan(" + i + ")", x.plan(i), 1);
-            due.is("plan(" + (i + 1) + ")", x.plan(i + 1), -1);
-        }
-        due.is("plans(0, 1), the 9th", x.plans(0, 1), -3);
-        due.is("plans(1, 1), the 9th: BAD ahead of FULL", x.plans(1, 1), -1);
-        due.is("cut(7)", x.cut(7), 8);
-        due.is("plans(3, 2), the 8th again", x.plans(3, 2), 8);
-        due.is("plan(7)", x.plan(7), 23);
-        due.is("plans(3, 2), the 9th", x.plans(3, 2), -3);
-    }
-
-    private static void planPairsByNumbers() {
-        for (int pair = 0; pair < 25; pair++) {
-            int a = pair / 5, b = pair % 5;
-            SpoonHates x = Due.told(FIVE);
-            due.is("plans(" + a + ", " + b + ")", x.plans(a, b), a == b ? -1 : 1);
-            due.is("plan(0)", x.plan(0), a == b ? -1 : a < b ? 10 * a + b : 10 * b + a);
-        }
-    }
-
-    private static void cutKeepsTheFirst() {
-        int[] pairs = {1, 2, 3, 4, 12, 13, 14, 23};
-        for (int n = 0; n <= 8; n++) {
-            SpoonHates x = Due.told(FIVE + "plan0 1;plan0 2;plan0 3;plan0 4;plan1 2;plan1 3;plan1 4;plan2 3;");
-            due.is("cut(9)", x.cut(9), -1);
-            due.is("cut(-1)", x.cut(-1), -1);
-            due.is("cut(" + n + ")", x.cut(n), 8);
-            due.is("rule(8)", x.rule(8), n);
-            due.is("cut(" + (n + 1) + ")", x.cut(n + 1), -1);
-            due.is("cut(" + n + ") again", x.cut(n), n);
-            for (int i = 0; i < 8; i++) {
-                due.is("plan(" + i + ")", x.plan(i), i < n ? pairs[i] : -1);
-            }
-        }
-        SpoonHates y = new SpoonHates();
-        due.is("cut(0) of no plan", y.cut(0), 0);
-        due.is("cut(1) of no plan", y.cut(1), -1);
     }
 
     private static void turnIsTheLesser() {
@@ -262,7 +37,7 @@ public final class StirEdgesTest {
             for (int hatreds = 0; hatreds < 100; hatreds++) {
                 x.hate(0, 1, hatreds / 10);
                 x.hate(1, 0, hatreds % 10);
-                int turn = Math.min(feels(kind, hatreds / 10), feels(other, hatreds % 10));
+                int turn = Math.min(Due.feels(kind, hatreds / 10), Due.feels(other, hatreds % 10));
                 due.is("turn(0, 1)", x.turn(0, 1), turn);
                 due.is("turn(1, 0)", x.turn(1, 0), turn);
             }
@@ -310,15 +85,15 @@ public final class StirEdgesTest {
             for (int v = 0; v <= 9; v++) {
                 SpoonHates x = two(kind, 0, v, 9);
                 x.stir(0, 1);
-                due.is(KINDS[kind] + " cools of " + v + " at STEP 0", x.hatred(0, 1, 0), cooled[kind][v]);
+                due.is(Due.KINDS[kind] + " cools of " + v + " at STEP 0", x.hatred(0, 1, 0), cooled[kind][v]);
                 due.is("the plain one cools", x.hatred(1, 0, 0), 8);
                 SpoonHates y = two(0, kind, 9, v);
                 y.stir(0, 1);
-                due.is(KINDS[kind] + ", the second one", y.hatred(1, 0, 0), cooled[kind][v]);
+                due.is(Due.KINDS[kind] + ", the second one", y.hatred(1, 0, 0), cooled[kind][v]);
                 due.is("the plain one, the first one", y.hatred(0, 1, 0), 8);
                 SpoonHates z = two(kind, 0, v, 9);
                 z.stir(1, 0);
-                due.is(KINDS[kind] + ", told second", z.hatred(0, 1, 0), cooled[kind][v]);
+                due.is(Due.KINDS[kind] + ", told second", z.hatred(0, 1, 0), cooled[kind][v]);
             }
         }
     }
@@ -375,11 +150,16 @@ public final class StirEdgesTest {
     }
 
     private static void runs(String name, SpoonHates x, int... want) {
-        String before = Due.state(x);
+        int[] ahead = {x.rule(3), x.rule(4), x.rule(5), x.count(0)};
         for (int what = 0; what < 5; what++) {
             due.is(name + ": runs(" + what + ")", x.runs(what), want[what]);
         }
-        due.keeps(name + ": runs(5)", x, before, x.runs(5), -1);
+        due.is(name + ": runs(5)", x.runs(5), -1);
+        due.is(name + ": runs(-1)", x.runs(-1), -1);
+        due.is(name + ": STEP is as it was", x.rule(3), ahead[0]);
+        due.is(name + ": DONE is as it was", x.rule(4), ahead[1]);
+        due.is(name + ": THE POT is as it was", x.rule(5), ahead[2]);
+        due.is(name + ": HATRED is as it was", x.count(0), ahead[3]);
     }
 
     private static void runsOfNoPlan() {
@@ -510,8 +290,8 @@ public final class StirEdgesTest {
     }
 
     private static void threeBothWays() {
-        SpoonHates x = Due.told("plain;".repeat(5));
         for (int ways = 0; ways < 64; ways++) {
+            SpoonHates x = Due.told("plain;".repeat(5));
             int[] there = {ways & 3, ways >> 2 & 3, ways >> 4 & 3};
             x.hate(0, 2, there[0]);
             x.hate(2, 4, there[1]);
@@ -522,7 +302,6 @@ public final class StirEdgesTest {
             due.is("three(0, 2, 4): " + ways, x.three(0, 2, 4), least);
             x.hate(2, 0, 9);
             due.is("three(0, 2, 4), the other way 1: " + ways, x.three(0, 2, 4), Math.max(least, 1));
-            x.hate(2, 0, 0);
         }
         SpoonHates y = Due.told("plain;sullen;nun;brother;plain;");
         // 4 feels 7 for 1, 1 feels 8 - 1 for 3, 3 feels twice 4 for 4
@@ -536,21 +315,5 @@ public final class StirEdgesTest {
         due.is("three(4, 1, 2)", y.three(4, 1, 2), 0);
         SpoonHates two = Due.told("plain;plain;both0 1 9;");
         due.is("three(0, 1, 2) of two", two.three(0, 1, 2), -1);
-    }
-
-    /** An object is used for 512 calls: the last one answers as due. */
-    private static void theCallNumber512() {
-        SpoonHates x = new SpoonHates();
-        Due.feedAll(x, "nun;nun;both0 1 9;");
-        x.text();
-        x.keep(0);
-        for (int i = 20; i < 511; i++) {
-            if (i % 2 == 1) {
-                due.is("stir(0, 1)", x.stir(0, 1), 3);
-            } else {
-                due.is("back(0)", x.back(0), 0);
-            }
-        }
-        due.is("the call number 512", x.stir(0, 1), 3);
     }
 }

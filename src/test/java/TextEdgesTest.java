@@ -5,7 +5,6 @@ import java.util.Set;
 /** Promises 1 to 10 and the terms they stand on, at their edges: each method is a sentence of the document. */
 public final class TextEdgesTest {
     private static final Due due = new Due("TextEdgesTest");
-    private static final String[] KINDS = {"plain", "sullen", "nun", "brother"};
     private static final String FIVE = "nun;nun;nun;nun;nun;";
 
     public static void main(String[] args) {
@@ -44,6 +43,7 @@ public final class TextEdgesTest {
         usedSlipsAreBits();
         allHatredsHaveTheirPlaces();
         allSlipsAndPlansHaveTheirPlaces();
+        theCallNumber512();
         due.close();
     }
 
@@ -235,7 +235,7 @@ public final class TextEdgesTest {
     }
 
     private static void namesAreAsLongAsMayBe() {
-        for (String kind : KINDS) {
+        for (String kind : Due.KINDS) {
             reads(kind + ";", 1);
             refuses(kind + kind + ";", 2, 0);
             refuses(kind + "pot1 1;", 2, 0);
@@ -402,7 +402,7 @@ public final class TextEdgesTest {
     }
 
     private static void sixthHelper() {
-        for (String kind : KINDS) {
+        for (String kind : Due.KINDS) {
             String five = (kind + ";").repeat(5);
             reads(five, 5);
             refuses(five + kind + ";", 5, five.length());
@@ -533,12 +533,12 @@ public final class TextEdgesTest {
             {0, 1, 2, 3, 3, 3, 3, 3, 3, 3}, {0, 2, 4, 6, 8, 10, 12, 14, 16, 18}};
         for (int kind = 0; kind < 4; kind++) {
             for (int other = 0; other < 4; other++) {
-                SpoonHates x = Due.told(KINDS[kind] + ";" + KINDS[other] + ";");
+                SpoonHates x = Due.told(Due.KINDS[kind] + ";" + Due.KINDS[other] + ";");
                 for (int v = 0; v <= 9; v++) {
                     x.hate(0, 1, v);
-                    due.is(KINDS[kind] + " of " + v, x.hatred(0, 1, 0), v);
-                    due.is(KINDS[kind] + " FEELS of " + v, x.hatred(0, 1, 1), feels[kind][v]);
-                    due.is(KINDS[other] + " FEELS of 0", x.hatred(1, 0, 1), 0);
+                    due.is(Due.KINDS[kind] + " of " + v, x.hatred(0, 1, 0), v);
+                    due.is(Due.KINDS[kind] + " FEELS of " + v, x.hatred(0, 1, 1), feels[kind][v]);
+                    due.is(Due.KINDS[other] + " FEELS of 0", x.hatred(1, 0, 1), 0);
                 }
             }
         }
@@ -592,5 +592,21 @@ public final class TextEdgesTest {
             due.is("plan(" + i + ")", x.plan(i), pairs[i]);
         }
         due.is("plan(8)", x.plan(8), -1);
+    }
+
+    /** An object is used for 512 calls: the last one answers as due. */
+    private static void theCallNumber512() {
+        SpoonHates x = new SpoonHates();
+        Due.feedAll(x, "nun;nun;both0 1 9;");
+        x.text();
+        x.keep(0);
+        for (int i = 20; i < 511; i++) {
+            if (i % 2 == 1) {
+                due.is("stir(0, 1)", x.stir(0, 1), 3);
+            } else {
+                due.is("back(0)", x.back(0), 0);
+            }
+        }
+        due.is("the call number 512", x.stir(0, 1), 3);
     }
 }
