@@ -107,6 +107,11 @@ public final class ChangeEdgesTest {
                 }
             }
         }
+        // HATRED is forgiven, not what is felt of it: a sullen one feels nothing of 1
+        SpoonHates sullen = Due.told("sullen;nun;brother;hate0 1 1;hate0 2 1;hate1 0 9;");
+        due.is("hatred(0, 1, 1)", sullen.hatred(0, 1, 1), 0);
+        due.is("forgive(0), sullen", sullen.forgive(0), 2);
+        due.is("count(0)", sullen.count(0), 9);
         SpoonHates alone = Due.told("nun;");
         due.is("forgive(0), alone", alone.forgive(0), 0);
         due.is("forgive(1), alone", alone.forgive(1), -1);

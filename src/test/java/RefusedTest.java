@@ -1,5 +1,6 @@
 import java.util.HashMap;
 import java.util.Map;
+import java.util.SortedMap;
 import java.util.function.Supplier;
 import java.util.function.ToLongFunction;
 
@@ -13,13 +14,15 @@ public final class RefusedTest {
     private static final int LEAST = Integer.MIN_VALUE, MOST = Integer.MAX_VALUE;
     private static final Map<Supplier<SpoonHates>, String> untouched = new HashMap<>();
 
-    private static final Supplier<SpoonHates> RICH = RefusedTest::rich;
-    private static final Supplier<SpoonHates> FULL_ROWS = RefusedTest::fullRows;
-    private static final Supplier<SpoonHates> FULL_TAPE = RefusedTest::fullTape;
-    private static final Supplier<SpoonHates> AT_NOON = RefusedTest::atNoon;
-    private static final Supplier<SpoonHates> POT_SET = RefusedTest::potSet;
-    private static final Supplier<SpoonHates> ALONE = RefusedTest::alone;
-    private static final Supplier<SpoonHates> EMPTY = SpoonHates::new;
+    private static final Supplier<SpoonHates> RICH = Kitchens.RICH;
+    private static final Supplier<SpoonHates> FULL_ROWS = Kitchens.FULL_ROWS;
+    private static final Supplier<SpoonHates> FULL_TAPE = Kitchens.FULL_TAPE;
+    private static final Supplier<SpoonHates> AT_NOON = Kitchens.AT_NOON;
+    private static final Supplier<SpoonHates> ALMOST_NOON = Kitchens.ALMOST_NOON;
+    private static final Supplier<SpoonHates> POT_SET = Kitchens.POT_SET;
+    private static final Supplier<SpoonHates> ALIKE_CELLS = Kitchens.ALIKE_CELLS;
+    private static final Supplier<SpoonHates> ALONE = Kitchens.ALONE;
+    private static final Supplier<SpoonHates> EMPTY = Kitchens.EMPTY;
 
     private interface OneNumber {
         long ask(SpoonHates x, int v);
@@ -47,74 +50,9 @@ public final class RefusedTest {
         due.close();
     }
 
-    /** Five helpers of all kinds, each hating each; something of all there is, and room for a little more. */
-    private static SpoonHates rich() {
-        SpoonHates x = Due.told("plain;sullen;nun;brother;plain;pot50 9;slip0 1 2;slip1 0 3;slip2 3 1;slip3 2 9;"
-                + "slip4 0 5;slip0 4 4;");
-        for (int a = 0; a < 5; a++) {
-            for (int b = 0; b < 5; b++) {
-                if (a != b) {
-                    x.hate(a, b, (3 * a + 2 * b) % 7 + 2);
-                }
-            }
-        }
-        int[][] pairs = {{0, 4}, {1, 2}, {3, 0}, {2, 3}, {4, 1}, {0, 1}, {3, 1}};
-        for (int[] pair : pairs) {
-            x.plans(pair[0], pair[1]);
-        }
-        x.see(9, 0);
-        x.see(3, 3);
-        x.see(2, 4);
-        x.see(1, 5);
-        x.see(0, 6);
-        x.keep(0);
-        x.stir(0, 1);
-        x.stir(3, 4);
-        x.use(2);
-        Due.lay(x, 0, 0, 0, 1, 2, 3);
-        Due.lay(x, 1, 1, 1, 2, 3, 4);
-        Due.lay(x, 2, 2, 4, 0, 3, 1);
-        x.read(1, 0, 0, 1);
-        x.feed('?');
-        x.text();
-        Due.feedAll(x, "nun");
-        return x;
-    }
-
-    private static SpoonHates fullRows() {
-        SpoonHates x = rich();
-        x.plans(4, 2);
-        x.see(4, 2);
-        return x;
-    }
-
-    private static SpoonHates fullTape() {
-        SpoonHates x = Due.told("nun;nun;both0 1 5;");
-        Due.feedAll(x, "nun;nun;" + " ".repeat(151) + "?");
-        return x;
-    }
-
-    private static SpoonHates atNoon() {
-        SpoonHates x = rich();
-        x.set(1, 2);
-        return x;
-    }
-
-    private static SpoonHates potSet() {
-        SpoonHates x = rich();
-        x.hate(0, 1, 0);
-        x.hate(1, 0, 0);
-        x.stir(0, 1);
-        return x;
-    }
-
-    private static SpoonHates alone() {
-        return Due.told("brother;");
-    }
-
     /** That the kitchens hold what makes a refusal of theirs worth looking at. */
     private static void kitchensAreAsMeant() {
-        SpoonHates x = rich();
+        SpoonHates x = RICH.get();
         int[] rules = {5, 50, 9, 2, 4 + 6, 0, 6, 4, 7};
         for (int what = 0; what < rules.length; what++) {
             due.is("rich: rule(" + what + ")", x.rule(what), rules[what]);
@@ -126,19 +64,23 @@ public final class RefusedTest {
         due.is("rich: torn()", x.torn(), 3);
         due.is("rich: fault()", x.fault(), 1);
         due.is("rich: back(0)", x.back(0), 0);
-        due.is("full rows: rule(8)", fullRows().rule(8), 8);
-        due.is("full rows: count(1)", fullRows().count(1), 6);
-        due.is("full tape: count(3)", fullTape().count(3), 160);
-        due.is("at noon: rule(2)", atNoon().rule(2), 2);
-        due.is("pot set: rule(5)", potSet().rule(5), 1);
-        due.is("alone: rule(0)", alone().rule(0), 1);
+        due.is("full rows: rule(8)", FULL_ROWS.get().rule(8), 8);
+        due.is("full rows: count(1)", FULL_ROWS.get().count(1), 6);
+        due.is("full tape: count(3)", FULL_TAPE.get().count(3), 160);
+        due.is("at noon: rule(2)", AT_NOON.get().rule(2), 2);
+        due.is("pot set: rule(5)", POT_SET.get().rule(5), 1);
+        due.is("alone: rule(0)", ALONE.get().rule(0), 1);
     }
 
     private static void refused(Supplier<SpoonHates> maker, String call, long want, ToLongFunction<SpoonHates> asked) {
-        SpoonHates x = maker.get();
-        due.is(call, asked.applyAsLong(x), want);
-        String before = untouched.computeIfAbsent(maker, m -> Whole.of(m.get()));
-        due.same(call + " leaves all as it was", Whole.of(x), before);
+        due.is(call, asked.applyAsLong(maker.get()), want);
+        String before = untouched.computeIfAbsent(maker, m -> Whole.text(Whole.of(m)));
+        String behind = Whole.text(Whole.of(() -> {
+            SpoonHates x = maker.get();
+            asked.applyAsLong(x);
+            return x;
+        }));
+        due.same(call + " leaves all as it was", behind, before);
     }
 
     private static void bad(String call, ToLongFunction<SpoonHates> asked) {
@@ -328,28 +270,12 @@ public final class RefusedTest {
         refused(AT_NOON, "read(0, 0, 0, 1) at noon", -20, x -> x.read(0, 0, 0, 1));
         refused(AT_NOON, "read(0, 0, 0, 3) at noon, the third torn", -20, x -> x.read(0, 0, 0, 3));
         refused(POT_SET, "read(2, 2, 2, 2), the pot set, the second torn", -20, x -> x.read(2, 2, 2, 2));
-        Supplier<SpoonHates> almostNoon = RefusedTest::almostNoon;
-        refused(almostNoon, "read(1, 1, 0, 2): noon behind the first", -21, x -> x.read(1, 1, 0, 2));
-        Supplier<SpoonHates> alike = RefusedTest::withAlikeCells;
-        refused(alike, "read(1, 1, 0, 2): the second is alike", -21, x -> x.read(1, 1, 0, 2));
-        refused(alike, "read(1, 1, 0, 3): refused ahead of the tear", -21, x -> x.read(1, 1, 0, 3));
-        refused(alike, "read(1, 1, 2, 1): alike", -20, x -> x.read(1, 1, 2, 1));
-        refused(alike, "read(2, 2, 2, 1): no such helper", -20, x -> x.read(2, 2, 2, 1));
-        refused(alike, "read(0, 0, 0, 2): below every helper", -21, x -> x.read(0, 0, 0, 2));
-    }
-
-    private static SpoonHates almostNoon() {
-        SpoonHates x = rich();
-        x.set(1, 3);
-        return x;
-    }
-
-    private static SpoonHates withAlikeCells() {
-        SpoonHates x = rich();
-        x.lay(1, 2, 4);
-        x.lay(2, 2, 5);
-        x.lay(0, 3, -1);
-        return x;
+        refused(ALMOST_NOON, "read(1, 1, 0, 2): noon behind the first", -21, x -> x.read(1, 1, 0, 2));
+        refused(ALIKE_CELLS, "read(1, 1, 0, 2): the second is alike", -21, x -> x.read(1, 1, 0, 2));
+        refused(ALIKE_CELLS, "read(1, 1, 0, 3): refused ahead of the tear", -21, x -> x.read(1, 1, 0, 3));
+        refused(ALIKE_CELLS, "read(1, 1, 2, 1): alike", -20, x -> x.read(1, 1, 2, 1));
+        refused(ALIKE_CELLS, "read(2, 2, 2, 1): no such helper", -20, x -> x.read(2, 2, 2, 1));
+        refused(ALIKE_CELLS, "read(0, 0, 0, 2): below every helper", -21, x -> x.read(0, 0, 0, 2));
     }
 
     /** A refused text empties the tape and tells its fault: nothing else is another. */
@@ -359,15 +285,26 @@ public final class RefusedTest {
         int[] faults = {1, 1, 1, 2, 2, 3, 4, 4, 3, 5, 6, 6};
         int[] places = {0, 3, 0, 0, 3, 5, 7, 16, 6, 20, 10, 51};
         for (int i = 0; i < texts.length; i++) {
-            SpoonHates x = rich();
-            x.end(0);
-            Due.feedAll(x, texts[i]);
-            due.is("text() of '" + texts[i] + "'", x.text(), -10 - places[i]);
-            due.is("fault() of '" + texts[i] + "'", x.fault(), faults[i]);
-            SpoonHates untold = rich();
-            untold.end(0);
-            String before = Whole.of(untold).replaceFirst("torn 1 ", "torn " + faults[i] + " ");
-            due.same("text() of '" + texts[i] + "' leaves all but the tape", Whole.of(x), before);
+            String text = texts[i];
+            Supplier<SpoonHates> fed = () -> {
+                SpoonHates x = RICH.get();
+                x.end(0);
+                Due.feedAll(x, text);
+                return x;
+            };
+            SpoonHates x = fed.get();
+            due.is("text() of '" + text + "'", x.text(), -10 - places[i]);
+            due.is("fault() of '" + text + "'", x.fault(), faults[i]);
+            SortedMap<String, String> want = Whole.of(RICH);
+            want.put("fault()", "" + faults[i]);
+            want.put("count(3)", "0");
+            want.put("tape", "0 0 0 -1");
+            String behind = Whole.text(Whole.of(() -> {
+                SpoonHates y = fed.get();
+                y.text();
+                return y;
+            }));
+            due.same("text() of '" + text + "' leaves all but the tape", behind, Whole.text(want));
         }
     }
 

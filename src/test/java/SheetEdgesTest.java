@@ -14,6 +14,7 @@ public final class SheetEdgesTest {
         sheetFrom0To40();
         sheetIsNew();
         sheetsByThemselves();
+        sheetsAreLeft();
         layTheLowestBits();
         layAtTheEnds();
         readFromTheFirstToTheLastCell();
@@ -166,6 +167,31 @@ public final class SheetEdgesTest {
         x.sheet(2, 0, 0);
         due.is("read(3, 0, 0, 1)", x.read(3, 0, 0, 1), 1);
         due.is("rule(4)", x.rule(4), done + 5);
+    }
+
+    /** No text tells a sheet, and no image holds one. */
+    private static void sheetsAreLeft() {
+        String text = FIVE + "both0 1 9;both1 2 8;both2 3 7;both3 4 6;";
+        SpoonHates x = Due.told(text);
+        for (int k = 0; k < 4; k++) {
+            Due.lay(x, k, (k + 1) % 3, k, k + 1);
+        }
+        x.keep(0);
+        Due.feedAll(x, text);
+        due.is("text()", x.text(), 9);
+        for (int k = 0; k < 4; k++) {
+            due.is("read(" + k + ") behind a text", x.read(k, (k + 1) % 3, 0, 1), 1);
+        }
+        due.is("rule(4)", x.rule(4), 9 + 8 + 7 + 6);
+        x.keep(1);
+        for (int k = 0; k < 4; k++) {
+            Due.lay(x, k, k % 3, k + 1, k);
+        }
+        due.is("back(1)", x.back(1), 30);
+        for (int k = 0; k < 4; k++) {
+            due.is("read(" + k + ") behind an image", x.read(k, k % 3, 0, 1), 1);
+        }
+        due.is("rule(4)", x.rule(4), 30 + 8 + 7 + 6 + 5);
     }
 
     /** Whether cells that a lane makes of v and 1 are 0 and 1. */

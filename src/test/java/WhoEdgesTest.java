@@ -21,6 +21,7 @@ public final class WhoEdgesTest {
         slipsAreNotUsed();
         slipsAre9AtMost();
         mateIsTheFirstOfSeveral();
+        mateIsByTurn();
         mateOfOneAlone();
         matchOfEachNumber();
         matchIsTheFirstSuch();
@@ -89,6 +90,8 @@ public final class WhoEdgesTest {
         // of 4 and 4 the brother's hatred cools by 2
         SpoonHates least = Due.told("plain;plain;brother;both0 1 4;hate0 2 4;hate2 0 9;");
         best("least left", least, 1, 4, 18, 2);
+        SpoonHates leastFirst = Due.told("plain;brother;plain;hate0 1 4;hate1 0 9;both0 2 4;");
+        best("least left, others behind it", leastFirst, 1, 4, 18, 1);
         // most goes ahead of least
         SpoonHates ahead = Due.told("plain;plain;brother;both0 1 5;hate0 2 4;hate2 0 9;");
         best("most, not least left", ahead, 1, 5, 21, 1);
@@ -293,6 +296,23 @@ public final class WhoEdgesTest {
             due.is("mate(5)", x.mate(5), -1);
             due.is("mate(-1)", x.mate(-1), -1);
         }
+    }
+
+    /** Whom one hates most is not with whom it turns most. */
+    private static void mateIsByTurn() {
+        SpoonHates x = Due.told("plain;plain;plain;nun;hate0 1 9;hate1 0 2;both0 2 3;hate0 3 9;hate3 0 1;");
+        due.is("mate(0): 9 and 2, 3 and 3, 9 and 1", x.mate(0), 2);
+        x.hate(3, 0, 9);
+        due.is("mate(0): the nun feels no more than 3", x.mate(0), 2);
+        x.hate(1, 0, 4);
+        due.is("mate(0): 9 and 4", x.mate(0), 1);
+        x.teach(1, 1);
+        due.is("mate(0): the sullen one feels 3 of 4", x.mate(0), 1);
+        x.teach(1, 0);
+        x.teach(2, 3);
+        due.is("mate(0): 9 and 4, 3 and 6", x.mate(0), 1);
+        x.teach(0, 3);
+        due.is("mate(0): 18 and 4, 6 and 6", x.mate(0), 2);
     }
 
     private static void mateOfOneAlone() {

@@ -1,92 +1,145 @@
+import java.util.Map;
+import java.util.SortedMap;
+import java.util.TreeMap;
+import java.util.function.Supplier;
+
 /**
- * All that an object holds, in one text: what can be asked for, and what only calls that change it can tell (what was
- * seen, the cells of sheets, images, the tape). Some 300 calls; the object is of no use afterwards.
+ * All that an object holds, each under its own name: what can be asked for, and what only calls that change it can tell
+ * (what was seen, images, the tape, sheets). Each part is asked of an object of its own, all made alike, so that none is
+ * called more than 512 times.
  */
 final class Whole {
-    private final SpoonHates x;
-    private final StringBuilder all = new StringBuilder();
+    private static final int TORN_BY_INDEX = 2;
+    private static final int BEYOND_EVERY_CELL = 40;
 
-    private Whole(SpoonHates x) {
-        this.x = x;
+    private final SortedMap<String, String> all = new TreeMap<>();
+
+    private Whole() {
     }
 
-    static String of(SpoonHates x) {
-        Whole whole = new Whole(x);
-        whole.asked();
-        whole.kitchen();
-        whole.sheets();
-        whole.images();
-        whole.tape();
-        return whole.all.toString();
+    static SortedMap<String, String> of(Supplier<SpoonHates> maker) {
+        Whole whole = new Whole();
+        whole.asked(maker.get());
+        whole.kitchen("", maker.get());
+        for (int k = 0; k < 2; k++) {
+            SpoonHates x = maker.get();
+            if (x.back(k) >= 0) {
+                whole.kitchen(image(k), x);
+            }
+        }
+        whole.tape(maker.get());
+        whole.sheets(maker.get());
+        return whole.all;
+    }
+
+    /** What the names of all that an image holds begin with. */
+    static String image(int k) {
+        return "image " + k + ": ";
+    }
+
+    static boolean isOfKitchen(String name) {
+        return name.matches("(rule|helper|hatred|slip|plan|seen)\\(.*");
+    }
+
+    static String text(Map<String, String> whole) {
+        StringBuilder text = new StringBuilder();
+        whole.forEach((name, told) -> text.append(name).append(": ").append(told).append('\n'));
+        return text.toString();
     }
 
     private void put(String name, long... answers) {
-        all.append(name);
+        StringBuilder told = new StringBuilder();
         for (long answer : answers) {
-            all.append(' ').append(answer);
+            told.append(told.length() == 0 ? "" : " ").append(answer);
         }
-        all.append('\n');
+        all.put(name, told.toString());
     }
 
-    private void asked() {
-        put("fault, torn", x.fault(), x.torn());
-        put("counts", x.count(1), x.count(2), x.count(3), x.count(4));
-        for (int i = 0; i < x.rule(6); i++) {
-            put("slip", x.slip(i, 0), x.slip(i, 1), x.slip(i, 2), x.slip(i, 3));
+    private void asked(SpoonHates x) {
+        put("fault()", x.fault());
+        put("torn()", x.torn());
+        for (int what = 2; what <= 4; what++) {
+            put("count(" + what + ")", x.count(what));
         }
     }
 
     /** What an image holds, too. */
-    private void kitchen() {
+    private void kitchen(String of, SpoonHates x) {
         for (int what = 0; what <= 8; what++) {
-            put("rule", x.rule(what));
+            put(of + "rule(" + what + ")", x.rule(what));
         }
-        int helpers = x.rule(0);
-        for (int a = 0; a < helpers; a++) {
-            put("kind", x.helper(a));
-            for (int b = 0; b < helpers; b++) {
-                put("hatred", a == b ? 0 : x.hatred(a, b, 0));
+        for (int a = 0; a < 5; a++) {
+            put(of + "helper(" + a + ")", x.helper(a));
+            for (int b = 0; b < 5; b++) {
+                put(of + "hatred(" + a + ", " + b + ", 0)", x.hatred(a, b, 0));
             }
         }
-        for (int i = 0; i < x.rule(8); i++) {
-            put("plan", x.plan(i));
+        for (int i = 0; i < 6; i++) {
+            put(of + "slip(" + i + ")", x.slip(i, 0), x.slip(i, 1), x.slip(i, 2));
         }
-        seen();
+        for (int i = 0; i < 8; i++) {
+            put(of + "plan(" + i + ")", x.plan(i));
+        }
+        seen(of, x);
     }
 
-    /** Each that was seen tells itself by what fits no more with it. */
-    private void seen() {
-        for (int many = x.count(1); many > 0; many--) {
-            put("seen", x.fits(0, 1, 0), x.fits(0, 1, 1), x.fits(0, 1, 2));
-            x.forget(many - 1);
+    /** By what fits it and those ahead of it, of two plain ones. */
+    private void seen(String of, SpoonHates x) {
+        x.teach(0, 0);
+        x.teach(1, 0);
+        for (int i = 6; i > 0; i--) {
+            boolean isSeen = i <= x.count(1);
+            if (isSeen) {
+                put(of + "seen(" + i + ")", x.fits(0, 1, 0), x.fits(0, 1, 1), x.fits(0, 1, 2));
+                x.forget(i - 1);
+            } else {
+                all.put(of + "seen(" + i + ")", "none");
+            }
         }
     }
 
-    /** By pairs of cells, each stirred alone: who they are is told by what is done and left. */
-    private void sheets() {
-        x.set(1, 12);
+    private void tape(SpoonHates x) {
+        int lines = x.text();
+        if (lines < 0) {
+            put("tape", lines, x.fault());
+        } else {
+            put("tape", lines, x.fault(), x.rule(0), x.helper(0));
+        }
+    }
+
+    /** In a kitchen of plain ones where each two turn otherwise, so that DONE tells whom the cells tell. */
+    private void sheets(SpoonHates x) {
+        x.end(0);
+        Due.feedAll(x, "plain;".repeat(5) + "pot99 12;");
+        x.text();
+        int turn = 9;
+        for (int pair = 0; pair < 25; pair++) {
+            int a = pair / 5, b = pair % 5;
+            if (a < b) {
+                x.hate(a, b, turn);
+                x.hate(b, a, turn == 0 ? 9 : turn);
+                turn--;
+            }
+        }
+        x.keep(0);
         for (int k = 0; k < 4; k++) {
-            for (int lane = 0; lane < 3; lane++) {
-                put("sheet " + k + " as of " + lane, x.read(k, lane, 40, 1), x.torn());
-                if (x.torn() == 2) {
-                    put("its cells", x.read(k, lane, 0, 1), x.rule(4), x.read(k, lane, 1, 1), x.rule(4));
-                    put("its cells", x.read(k, lane, 2, 1), x.rule(4), x.count(0));
+            sheet(x, k);
+        }
+    }
+
+    private void sheet(SpoonHates x, int k) {
+        all.put("sheet " + k, "nothing");
+        for (int lane = 0; lane < 3; lane++) {
+            x.read(k, lane, BEYOND_EVERY_CELL, 1);
+            if (x.torn() == TORN_BY_INDEX) {
+                all.put("sheet " + k, "lane " + lane);
+                for (int f = 0; f < 4; f++) {
+                    put("sheet " + k + " from " + f, x.read(k, lane, f, 1), x.rule(4));
+                    x.back(0);
                 }
+                put("sheet " + k + " from 4", x.lay(k, 4, 0));
+                put("sheet " + k + " from 39", x.lay(k, 39, 0));
             }
         }
-    }
-
-    private void images() {
-        for (int k = 0; k < 2; k++) {
-            int done = x.back(k);
-            put("image", done);
-            if (done >= 0) {
-                kitchen();
-            }
-        }
-    }
-
-    private void tape() {
-        put("tape", x.text(), x.fault(), x.rule(0));
     }
 }
